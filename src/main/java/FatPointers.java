@@ -227,7 +227,7 @@ public final class FatPointers {
             case 0: return exponent;
             case 1: return from;
             case 2: return to - from;
-            case 3: return Pointer.areExact(base, length, machine.mantissa) ? 1 : 0;
+            case 3: return Pointer.staysAsAsked(base, length, machine.mantissa) ? 1 : 0;
             default: return NONE;
         }
     }
@@ -237,7 +237,7 @@ public final class FatPointers {
             return NONE;
         }
         for (int mantissa = Machine.LEAST_MANTISSA; mantissa <= Machine.MOST_MANTISSA; mantissa++) {
-            if (Pointer.areExact(base, length, mantissa)) {
+            if (Pointer.staysAsAsked(base, length, mantissa)) {
                 return mantissa;
             }
         }
@@ -1386,7 +1386,7 @@ public final class FatPointers {
             return down(address + (1 << exponent) - 1, exponent);
         }
 
-        static boolean areExact(int base, int length, int mantissa) {
+        static boolean staysAsAsked(int base, int length, int mantissa) {
             int exponent = leastExponent(base, base + length, mantissa);
             return down(base, exponent) == base && up(base + length, exponent) == base + length;
         }
@@ -1993,7 +1993,7 @@ public final class FatPointers {
             // Behind the one ahead, it is in none and they rise.
             int least = into.gapStart(into.objects);
             if (base < least || base + length > machine.memory || asked < 1 || asked > length
-                    || !Pointer.areExact(base, length, machine.mantissa)) {
+                    || !Pointer.staysAsAsked(base, length, machine.mantissa)) {
                 return false;
             }
             into.bases[into.objects] = base;

@@ -3,7 +3,7 @@ import java.util.ArrayList;
 import java.util.List;
 import java.util.Random;
 
-/** Random runs of up to 512 calls, each held against the model. */
+/** Random runs of some 500 calls beside those that feed the tape, each held against the model. */
 public final class ModelTest {
   private final Random random;
   private final Texts texts;
@@ -19,7 +19,7 @@ public final class ModelTest {
   }
 
   public static void main(String[] args) throws Exception {
-    int runs = args.length > 0 ? Integer.parseInt(args[0]) : 1500;
+    int runs = args.length > 0 ? Integer.parseInt(args[0]) : 600;
     long first = args.length > 1 ? Long.parseLong(args[1]) : 1;
     for (long seed = first; seed < first + runs; seed++) {
       ModelTest run = new ModelTest(seed);
@@ -45,7 +45,7 @@ public final class ModelTest {
     long got = number(FatPointers.class.getMethod(name, types).invoke(real, arguments));
     Method due = Model.class.getMethod(name, types);
     long want = number(due.invoke(model, arguments));
-    calls++;
+    calls += name.equals("feed") ? 0 : 1;
     told.add(text + ") = " + got);
     if (got != want) {
       wrong++;
@@ -89,7 +89,17 @@ public final class ModelTest {
 
   private int pointer() {
     if (upTo(12) == 0) return wild(0, 15);
-    return upTo(2) == 0 ? upTo(4) : upTo(16);
+    int any = upTo(16);
+    return upTo(3) > 0 ? like(any, upTo(4) > 0 ? 0 : upTo(8)) : any;
+  }
+
+  /** From a pointer on, the next that is valid and of that kind, so that more calls are not refused. */
+  private int like(int from, int kind) {
+    for (int i = 0; i < 16; i++) {
+      int p = (from + i) % 16;
+      if (model.pointer(p, 0) == 1 && (kind == 0) == (model.pointer(p, 8) == 0)) return p;
+    }
+    return from;
   }
 
   private int step() {
@@ -102,11 +112,11 @@ public final class ModelTest {
 
   private void go() throws Exception {
     if (upTo(4) == 0) for (int i = upTo(20); i > 0; i--) any();
-    machine();
-    while (calls < 470 && wrong == 0) {
+    for (int i = 0; i < 9 && real.has(0) == 0; i++) machine();
+    while (calls < 430 && wrong == 0) {
       any();
-      if (upTo(40) == 0) machine();
-      if (upTo(25) == 0) lookAround();
+      if (upTo(120) == 0) machine();
+      if (upTo(50) == 0) lookAround();
     }
   }
 
@@ -115,7 +125,7 @@ public final class ModelTest {
     if (upTo(3) == 0) text = texts.spoilt(text);
     if (text.length() > 300 && upTo(3) > 0) text = "memory 64 mantissa 4;";
     tape(text);
-    call("machine");
+    if (call("machine") > 0) texts.kinds = texts.kindsOf(text);
     call("fault", 0);
     call("fault", 1);
   }
@@ -132,7 +142,7 @@ public final class ModelTest {
 
   private void ask() throws Exception {
     String text = texts.question();
-    if (upTo(3) == 0) text = texts.spoilt(text);
+    if (upTo(5) == 0) text = texts.spoilt(text);
     if (text.length() > 300) return;
     tape(text);
     call("ask");
@@ -215,14 +225,20 @@ public final class ModelTest {
 
   /** A key at hand, and then what a key is for. */
   private void shelves() throws Exception {
-    if (upTo(3) > 0) {
+    int shelf = texts.kinds.isEmpty() ? 0 : upTo(texts.kinds.size());
+    int kind = texts.kinds.isEmpty() || upTo(8) == 0 ? wild(1, 7) : texts.kinds.get(shelf);
+    if (upTo(4) > 0 && model.pointer(15, 7) == 7) {
       call("copy", 15, 14);
-      call("move", 14, wild(1, 7));
+      call("move", 14, Math.max(-99, Math.min(99, kind)) - model.pointer(14, 1));
     }
-    for (int i = upTo(4); i > 0; i--) call("seal", pointer(), 14);
-    for (int i = upTo(4); i > 0; i--) call("shelve", pointer(), wild(0, 3));
-    if (upTo(2) == 0) call("unseal", pointer(), 14);
-    if (upTo(2) == 0) call("take", wild(0, 3), wild(0, 3), pointer());
+    for (int i = upTo(4); i > 0; i--) {
+      int pointer = pointer();
+      call("seal", pointer, 14);
+      if (upTo(4) > 0) call("shelve", pointer, shelf);
+    }
+    for (int i = upTo(3); i > 0; i--) call("shelve", pointer(), upTo(4) == 0 ? wild(0, 3) : shelf);
+    if (upTo(2) == 0) call("unseal", like(upTo(16), 1), 14);
+    if (upTo(3) == 0) call("take", upTo(4) == 0 ? wild(0, 3) : shelf, upTo(2), pointer());
   }
 
   private void image() throws Exception {

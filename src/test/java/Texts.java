@@ -1,4 +1,8 @@
+import java.util.ArrayList;
+import java.util.List;
 import java.util.Random;
+import java.util.regex.Matcher;
+import java.util.regex.Pattern;
 
 /** Random texts of machines and questions, most of them right, some with a mistake in them. */
 final class Texts {
@@ -11,9 +15,18 @@ final class Texts {
 
   private final Random random;
   private String[] names = {};
+  /** The kinds of the shelves of the machine that stands. */
+  List<Integer> kinds = new ArrayList<>();
 
   Texts(Random random) {
     this.random = random;
+  }
+
+  List<Integer> kindsOf(String text) {
+    List<Integer> found = new ArrayList<>();
+    Matcher m = Pattern.compile("kind\\s+(\\d+)").matcher(text);
+    while (m.find()) found.add(Integer.valueOf(m.group(1)));
+    return found;
   }
 
   private int upTo(int n) {
