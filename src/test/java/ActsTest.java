@@ -146,9 +146,9 @@ public final class ActsTest {
     b.due("behind its end, nothing", b.x.narrow(0, 1, 0), -1);
     b.x.move(0, -10);
     b.due("ahead of it", b.x.narrow(0, 1, 2), -1);
-    b.x.alloc(2, 10);
-    b.x.move(2, 1);
-    b.due("rounded outwards, out of it", b.x.narrow(0, 2, 9), -1);
+    b.x.move(0, 2);
+    b.due("from one on", b.x.narrow(0, 1, 7), 7);
+    b.due("from one on, one too many", b.x.narrow(0, 1, 8), -1);
   }
 
   private static void limiting() {
@@ -203,10 +203,11 @@ public final class ActsTest {
     b.due("a key without the permit", b.x.unseal(0, 3), false);
     b.due("unseal(16, 1)", b.x.unseal(16, 1), false);
     b.due("unseal(0, -1)", b.x.unseal(0, -1), false);
+    b.due("unseal(-1, 1)", b.x.unseal(-1, 1), false);
     b.due("unseal(0, 1)", b.x.unseal(0, 1), true);
     b.due("its kind", b.x.pointer(0, 8), 0);
     b.due("not sealed", b.x.unseal(0, 1), false);
-    b.due("status(4)", b.x.status(4), before + 12);
+    b.due("status(4)", b.x.status(4), before + 13);
     // A key out of its bounds.
     b.x.move(1, -2);
     b.x.narrow(1, 4, 1);

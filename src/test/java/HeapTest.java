@@ -49,6 +49,9 @@ public final class HeapTest {
     b.due("asked for", b.x.object(1, 2), 40);
     b.due("alloc", b.x.alloc(2, 300), 76);
     b.due("above 99 is 99, rounded to fours", b.x.object(2, 1), 400);
+    b.machine("memory 1024 mantissa 8;pads 9999;");
+    b.x.alloc(0, 1);
+    b.due("99 at the most", b.x.object(0, 1), 100);
     b.machine("memory 64 mantissa 4;pads 0-9999*9999;");
     b.x.alloc(0, 5);
     b.due("far below 0", b.x.object(0, 1), 5);
@@ -147,6 +150,11 @@ public final class HeapTest {
     b.due("free", b.x.free(0), 2);
     b.due("room(1)", b.x.room(1), 78);
     b.due("alloc", b.x.alloc(0, 2), 78);
+    b.machine("memory 64 mantissa 8;");
+    b.x.alloc(0, 47);
+    b.due("a hole of one byte", b.x.has(6), 1);
+    b.x.alloc(1, 1);
+    b.due("no hole", b.x.has(6), 0);
   }
 
   private static void freeing() {

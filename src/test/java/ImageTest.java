@@ -143,6 +143,7 @@ public final class ImageTest {
     refused("permits of 8", bytes, 6, 8);
     refused("a kind of 8", bytes, 7, 8);
     refused("a flag of 2 on a shelf", bytes, PLACES, 2);
+    refused("empty but for the flag", bytes, PLACES + 8, 1);
     refused("a flag of 255 on a shelf", bytes, PLACES, 255);
     refused("of another kind on a shelf", bytes, PLACES + 7, 3);
     refused("not sealed on a shelf", bytes, PLACES + 7, 0);

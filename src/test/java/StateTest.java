@@ -62,6 +62,8 @@ public final class StateTest {
     b.due("shelf(2, 0, 0)", b.x.shelf(2, 0, 0), -1);
     b.due("shelf(-1, 0, 0)", b.x.shelf(-1, 0, 0), -1);
     b.due("shelf(1, 4, 0)", b.x.shelf(1, 4, 0), -1);
+    b.due("shelf(0, 4, 0) is not shelf(1, 0, 0)", b.x.shelf(0, 4, 0), -1);
+    b.due("take(0, 4, 9) neither", b.x.take(0, 4, 9), false);
     b.due("shelf(1, -1, 0)", b.x.shelf(1, -1, 0), -1);
   }
 
@@ -105,6 +107,18 @@ public final class StateTest {
     b.due("octetAt(64)", b.x.octetAt(64), 255);
     b.due("octetAt(63)", b.x.octetAt(63), 128);
     b.due("octetAt(62)", b.x.octetAt(62), 0);
+    b.x.move(15, -63);
+    for (int a = 0; a < 24; a++) {
+      b.due("store", b.x.store(15, 7 * a + 100 & 255), true);
+      b.x.move(15, 1);
+    }
+    for (int a = 0; a < 24; a++) b.due("octetAt(" + a + ")", b.x.octetAt(a), 7 * a + 100 & 255);
+    b.due("octetAt(24)", b.x.octetAt(24), 0);
+    b.x.move(15, -14);
+    b.due("store 0", b.x.store(15, 0), true);
+    for (int a = 0; a < 24; a++) {
+      b.due("octetAt(" + a + ")", b.x.octetAt(a), a == 10 ? 0 : 7 * a + 100 & 255);
+    }
   }
 
   private static void kept() {

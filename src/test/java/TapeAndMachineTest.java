@@ -56,6 +56,7 @@ public final class TapeAndMachineTest {
     b.due("has(1)", b.x.has(1), 8);
     b.stands("memory 1024 mantissa 4;", 1);
     b.stands(M + "shelf a kind 1;shelf b kind 7;shelf first kind 7;shelf abcdef kind 3;", 5);
+    b.stands(M + "shelf abcdef kind 1;shelf abcdeg kind 1;shelf abcde kind 1;shelf bbcdef kind 1;", 5);
     b.stands(M + "picks need+start*room;pads need;traps at<base or length>perms;", 4);
     b.stands(M + "traps not[all and not all]or 1=2;pads min(1,max(2,need));picks(1);", 4);
     b.stands(M + "traps[[[[[[all]]]]]];", 2);
@@ -144,6 +145,8 @@ public final class TapeAndMachineTest {
     b.fails(M + "shelf a kind 8;", 2, 34);
     b.fails(M + "shelf a kind 1;shelf a kind 2;", 3, 42);
     b.fails(M + "shelf ab kind 1;shelf a kind 1;shelf ab", 3, 58);
+    b.fails(M + "shelf abcdef kind 1;shelf b kind 1;shelf abcdef", 3, 62);
+    b.fails(M + "shelf memory kind 1;", 1, 27);
   }
 
   private static void tooManyOpen() {
