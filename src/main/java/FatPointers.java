@@ -11,7 +11,7 @@ public final class FatPointers {
     private static final int PLACES = 4;
     private static final int OBJECTS = 32;
     private static final int HEAP = 16;
-    private static final int MEMORY = 1024;
+    private static final int MOST_MEMORY = 1024;
     private static final int TAPE = 1600;
     private static final int FEED = 20;
     private static final int STEP = 4095;
@@ -24,13 +24,13 @@ public final class FatPointers {
     private final State now = new State();
     private final State draft = new State();
     private final History history = new History();
-    private final Parser parser = new Parser();
     private final Calculator calculator = new Calculator(now.pointers);
     private final Heap heap = new Heap(now, calculator);
     private final Sight sight = new Sight();
     private final Image image = new Image();
     private Machine machine = new Machine();
     private Machine spare = new Machine();
+    private final Parser parser = new Parser(spare);
     private boolean running = false;
     private int tapeLength = 0;
     private int fault = 0;
@@ -718,6 +718,7 @@ public final class FatPointers {
         static final int SIGN = 3;
         /** A word or a number without the blank that it needs ahead of it. */
         static final int STRAY = 4;
+        private static final int BLANK = 5;
         private static final int DIGITS = 4;
 
         byte[] text = new byte[0];
@@ -736,48 +737,48 @@ public final class FatPointers {
         }
 
         void next() {
-            boolean needsBlank = kind == WORD || kind == NUMBER;
+            boolean wasLong = kind == WORD || kind == NUMBER;
             start = behind;
-            while (start < length && (text[start] == 32 || text[start] == 10)) {
+            while (start < length && kindAt(start) == BLANK) {
                 start++;
             }
-            needsBlank = needsBlank && start == behind;
-            behind = start;
-            if (start >= length) {
-                kind = END;
-                value = NONE;
-            } else if (isLetter(text[start])) {
-                readWord();
-            } else if (isDigit(text[start])) {
-                readNumber();
-            } else {
-                kind = SIGN;
-                value = text[start] & 255;
-                behind = start + 1;
+            boolean sideBySide = wasLong && start == behind;
+            kind = kindAt(start);
+            boolean isLong = kind == WORD || kind == NUMBER;
+            behind = Math.min(start + 1, length);
+            while (isLong && behind < length && kindAt(behind) == kind) {
+                behind++;
             }
-            if (needsBlank && (kind == WORD || kind == NUMBER)) {
+            value = kind == WORD ? Words.numberOf(text, start, behind - start) : plainValue();
+            if (sideBySide && isLong) {
                 kind = STRAY;
             }
         }
 
-        private void readWord() {
-            kind = WORD;
-            while (behind < length && isLetter(text[behind])) {
-                behind++;
+        private int kindAt(int at) {
+            if (at < 0 || at >= length) {
+                return END;
             }
-            value = Words.numberOf(text, start, behind - start);
+            int sign = text[at];
+            if (sign == 10 || sign == 32) {
+                return BLANK;
+            }
+            if (sign >= 'a' && sign <= 'z') {
+                return WORD;
+            }
+            return sign >= '0' && sign <= '9' ? NUMBER : SIGN;
         }
 
-        private void readNumber() {
-            kind = NUMBER;
-            value = 0;
-            while (behind < length && isDigit(text[behind])) {
-                // What is longer is a fault: its value is never asked for and must not overflow.
-                if (behind - start < DIGITS) {
-                    value = 10 * value + text[behind] - '0';
-                }
-                behind++;
+        private int plainValue() {
+            if (kind != NUMBER) {
+                return start < length ? text[start] & 255 : NONE;
             }
+            int number = 0;
+            // What is longer is a fault: its value is never asked for and must not overflow.
+            for (int i = start; i < behind && i < start + DIGITS; i++) {
+                number = 10 * number + text[i] - '0';
+            }
+            return number;
         }
 
         boolean isTooLong() {
@@ -790,14 +791,6 @@ public final class FatPointers {
 
         boolean isSign(int sign) {
             return kind == SIGN && value == sign;
-        }
-
-        private static boolean isLetter(int sign) {
-            return sign >= 'a' && sign <= 'z';
-        }
-
-        private static boolean isDigit(int sign) {
-            return sign >= '0' && sign <= '9';
         }
     }
 
@@ -815,8 +808,12 @@ public final class FatPointers {
         int fault = 0;
         int place = NONE;
         private final Scanner scan = new Scanner();
-        private Machine into = null;
+        private Machine into;
         private int allowed = 0;
+
+        Parser(Machine first) {
+            into = first;
+        }
 
         private void begin(byte[] text, int length, Machine target) {
             fault = 0;
@@ -864,7 +861,7 @@ public final class FatPointers {
         }
 
         private boolean memoryStatement(Machine target) {
-            if (!word(Words.MEMORY) || !number(Machine.LEAST_MEMORY, MEMORY)) {
+            if (!word(Words.MEMORY) || !number(Machine.LEAST_MEMORY, MOST_MEMORY)) {
                 return false;
             }
             target.memory = scan.value;
@@ -1018,10 +1015,6 @@ public final class FatPointers {
             if (scan.isSign('[')) {
                 return opening(open) && test(open + 1) && sign(']');
             }
-            return comparison(open);
-        }
-
-        private boolean comparison(int open) {
             if (!sum(open)) {
                 return false;
             }
@@ -1403,17 +1396,13 @@ public final class FatPointers {
         }
 
         private int baseFrom(int from, int mantissa) {
-            int middle = (from >> exponent) & ((1 << mantissa) - 1);
-            int edge = edge(mantissa);
+            int mask = (1 << mantissa) - 1;
+            int middle = (from >> exponent) & mask;
+            int edge = (bottom - (1 << (mantissa - 2))) & mask;
             int correction = (bottom < edge ? 1 : 0) - (middle < edge ? 1 : 0);
             int window = exponent + mantissa;
             int begin = ((from >> window) + correction) << window;
             return (begin + (bottom << exponent)) & (ADDRESSES - 1);
-        }
-
-        /** A quarter of a window ahead of the base: from there on the same base is meant. */
-        private int edge(int mantissa) {
-            return (bottom - (1 << (mantissa - 2))) & ((1 << mantissa) - 1);
         }
 
         int extent(int mantissa) {
@@ -1438,7 +1427,8 @@ public final class FatPointers {
             int mask = (1 << mantissa) - 1;
             int windows = step >> (exponent + mantissa);
             int units = (step >> exponent) & mask;
-            int distance = (edge(mantissa) - (address >> exponent)) & mask;
+            int edge = bottom - (1 << (mantissa - 2));
+            int distance = (edge - (address >> exponent)) & mask;
             if (windows == 0) {
                 return units < distance - 1;
             }
@@ -1503,7 +1493,7 @@ public final class FatPointers {
         final int[] asked = new int[OBJECTS];
         final int[] keptRow = new int[KEPT * KEPT_WIDTH];
         /** Four bytes in each, as room is dear in the copies. */
-        private final int[] memory = new int[MEMORY / 4];
+        private final int[] memory = new int[MOST_MEMORY / 4];
         int objects = 0;
         int keptRows = 0;
 
@@ -1546,14 +1536,14 @@ public final class FatPointers {
         }
 
         int byteAt(int address) {
-            if (address < 0 || address >= MEMORY) {
+            if (address < 0 || address >= MOST_MEMORY) {
                 return NONE;
             }
             return (memory[address >> 2] >> (8 * (address & 3))) & 255;
         }
 
         void setByte(int address, int value) {
-            if (address < 0 || address >= MEMORY) {
+            if (address < 0 || address >= MOST_MEMORY) {
                 return;
             }
             int shift = 8 * (address & 3);

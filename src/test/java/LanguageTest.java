@@ -74,7 +74,11 @@ public final class LanguageTest {
         b.due("a constant if static: " + f, !isStatic || plain, true);
       }
       b.due("fields of " + c + ": " + fields, fields <= 20, true);
-      for (Method m : c.getDeclaredMethods()) b.due("parameters of " + m, m.getParameterCount() <= 7, true);
+      for (Method m : c.getDeclaredMethods()) {
+        b.due("parameters of " + m, m.getParameterCount() <= 7, true);
+        boolean taken = (" " + FACE).contains(" " + m.getName() + ":");
+        b.due("a name of its own: " + m, !taken || Modifier.isPublic(m.getModifiers()), true);
+      }
       boolean isStatic = Modifier.isStatic(c.getModifiers());
       b.due("static: " + c, isStatic || c == FatPointers.class, true);
     }
