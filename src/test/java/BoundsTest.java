@@ -6,6 +6,7 @@ public final class BoundsTest {
     rounding();
     exactness();
     steps();
+    edges();
     stepsByTheDocument();
     reaching();
     b.ends();
@@ -97,6 +98,32 @@ public final class BoundsTest {
     b.due("quick of a sealed one", b.x.quick(0, 21), 1);
     b.due("fits of one not valid", b.x.fits(2, 12), 0);
     b.due("fits of one not valid", b.x.fits(2, 11), 1);
+  }
+
+  /** At the first and the last address of a window, and one ahead of a step's end. */
+  private static void edges() {
+    b.machine("memory 256 mantissa 4;");
+    b.x.alloc(0, 10);
+    b.x.move(0, -8);
+    b.due("at the edge, -1", b.x.quick(0, -1), 0);
+    b.due("at the edge, 0", b.x.quick(0, 0), 0);
+    b.due("at the edge, 0", b.x.fits(0, 0), 1);
+    b.due("at the edge, 31", b.x.fits(0, 31), 1);
+    b.due("at the edge, 31", b.x.quick(0, 31), 0);
+    b.due("at the edge", b.x.window(0, 1), 32);
+    b.x.move(0, 31);
+    b.due("at the end, -1", b.x.quick(0, -1), 1);
+    b.due("at the end, -31", b.x.quick(0, -31), 0);
+    b.due("at the end, -31", b.x.fits(0, -31), 1);
+    b.due("at the end, 0", b.x.quick(0, 0), 0);
+    b.machine("memory 256 mantissa 8;");
+    b.x.alloc(0, 128);
+    b.x.move(0, 127);
+    b.due("64 fits", b.x.fits(0, 64), 1);
+    b.due("64 is not quick", b.x.quick(0, 64), 0);
+    b.due("64 is not counted", b.x.window(0, 1), 0);
+    b.x.move(0, 1);
+    b.due("63 is counted", b.x.window(0, 1), 1);
   }
 
   /** Whatever fits by the quick test fits by all decoded. */

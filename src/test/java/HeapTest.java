@@ -10,6 +10,7 @@ public final class HeapTest {
     allocating();
     thirtyTwo();
     freeing();
+    bytesAreNone();
     b.ends();
   }
 
@@ -155,6 +156,18 @@ public final class HeapTest {
     b.due("a hole of one byte", b.x.has(6), 1);
     b.x.alloc(1, 1);
     b.due("no hole", b.x.has(6), 0);
+  }
+
+  private static void bytesAreNone() {
+    b.machine("memory 64 mantissa 4;");
+    b.x.move(15, 12);
+    for (int a = 12; a < 40; a++) {
+      b.x.store(15, a);
+      b.x.move(15, 1);
+    }
+    b.x.alloc(0, 9);
+    b.due("free", b.x.free(0), 10);
+    for (int a = 12; a < 40; a++) b.due("octetAt(" + a + ")", b.x.octetAt(a), a < 16 || a > 25 ? a : 0);
   }
 
   private static void freeing() {

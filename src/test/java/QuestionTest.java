@@ -8,6 +8,7 @@ public final class QuestionTest {
     numbers();
     tests();
     faults();
+    noPlaceOfAShelf();
     b.ends();
   }
 
@@ -58,6 +59,17 @@ public final class QuestionTest {
     b.answers("total fits(0-4085)", 14);
     b.answers("total fits(0-4096)", 0);
     b.answers("total fits fits 5", 16);
+  }
+
+  private static void noPlaceOfAShelf() {
+    b.machine("memory 64 mantissa 4;shelf a kind 3;");
+    b.x.alloc(0, 4);
+    b.x.move(15, 3);
+    b.x.seal(0, 15);
+    b.x.shelve(0, 0);
+    b.answers("most from 16", 0);
+    b.answers("often kind=3", 1);
+    b.answers("total valid", 2);
   }
 
   private static void numbers() {

@@ -146,6 +146,7 @@ public final class TapeAndMachineTest {
     b.fails(M + "shelf a kind 1;shelf a kind 2;", 3, 42);
     b.fails(M + "shelf ab kind 1;shelf a kind 1;shelf ab", 3, 58);
     b.fails(M + "shelf abcdef kind 1;shelf b kind 1;shelf abcdef", 3, 62);
+    b.fails(M + "shelf abcdef kind 1;shelf b kind 1;shelf c kind 1;shelf abcdef", 3, 77);
     b.fails(M + "shelf memory kind 1;", 1, 27);
   }
 
