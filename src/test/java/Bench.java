@@ -1,8 +1,14 @@
+import java.io.IOException;
+import java.io.UncheckedIOException;
+import java.nio.file.Files;
+import java.nio.file.Path;
+
 /** An object under test with its tape, and the count of answers that are not as due. */
 final class Bench {
   static final long NOTHING = FatPointers.NOTHING;
   FatPointers x = new FatPointers();
   private final String name;
+  private String words = "";
   private int wrong = 0;
   private int checked = 0;
 
@@ -15,11 +21,31 @@ final class Bench {
     return this;
   }
 
+  /** What follows, on a new object, is about these words of the document, which stand in it once. */
+  void about(String words) {
+    fresh();
+    this.words = words;
+    String document = document();
+    int at = document.indexOf(words);
+    due("words that the document has", at >= 0, true);
+    due("words that it has once", document.indexOf(words, at + 1) >= 0, false);
+  }
+
+  /** The document with its white space folded, so that words may be quoted across lines. */
+  static String document() {
+    try {
+      return Files.readString(Path.of("../shared/DOC.md")).replaceAll("\\s+", " ");
+    } catch (IOException e) {
+      throw new UncheckedIOException(e);
+    }
+  }
+
   void due(String what, long got, long want) {
     checked++;
     if (got != want) {
       wrong++;
       System.out.println(name + ": " + what + " answered " + got + ", due is " + want);
+      if (!words.isEmpty()) System.out.println("  about: " + words);
     }
   }
 
