@@ -7,6 +7,7 @@ public final class ActsEdgesTest {
   private static int refused = 0;
 
   public static void main(String[] args) {
+    eachPermit();
     moving();
     narrowing();
     within();
@@ -65,6 +66,21 @@ public final class ActsEdgesTest {
   }
 
   // ---- terms II
+
+  private static void eachPermit() {
+    begin("VALID or not, an address, E, B, T, permits (1 to load, 2 to store, 4 to seal, together), a KIND (0: not sealed).");
+    machine("");
+    for (int permits = 0; permits < 8; permits++) {
+      key(1, 1);
+      b.x.limit(1, permits);
+      b.due("to load by " + permits, b.x.load(1) == 0, (permits & 1) != 0);
+      b.due("to store by " + permits, b.x.store(1, 0), (permits & 2) != 0);
+      b.x.copy(15, 2);
+      b.due("to seal by " + permits, b.x.seal(2, 1) == 1, (permits & 4) != 0);
+      b.due("its kind", b.x.pointer(2, 8), (permits & 4) != 0 ? 1 : 0);
+      b.due("moved, if its kind is 0", b.x.move(2, 1), (permits & 4) == 0);
+    }
+  }
 
   private static void moving() {
     begin("TO MOVE one that is not sealed by a step: its address is that much on, modulo 4096; it is VALID no more, if its bounds as DECODED"

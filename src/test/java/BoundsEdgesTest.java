@@ -6,6 +6,7 @@ public final class BoundsEdgesTest {
 
   public static void main(String[] args) {
     addresses();
+    halfAWindow();
     together();
     theLeastExponent();
     roundedOutwards();
@@ -26,6 +27,7 @@ public final class BoundsEdgesTest {
     fittingRefused();
     quick();
     quickByTwos();
+    dividedDownwards();
     quickRefused();
     windows();
     reaching();
@@ -58,12 +60,23 @@ public final class BoundsEdgesTest {
   }
 
   private static void together() {
-    b.about("(base and length together 4096 at most)");
+    b.about("TO ENCODE a base and a length (base and length together 4096 at most)");
     machine(4);
     int[][] right = {{0, 0}, {0, 4096}, {1, 4095}, {4095, 1}, {4095, 0}, {4096, 0}, {2048, 2048}};
     for (int[] r : right) b.due("rounds(" + r[0] + ", " + r[1] + ", 0)", b.x.rounds(r[0], r[1], 0) >= 0, true);
     int[][] wrong = {{0, 4097}, {1, 4096}, {4095, 2}, {4096, 1}, {4097, 0}, {2048, 2049}};
     for (int[] w : wrong) b.due("rounds(" + w[0] + ", " + w[1] + ", 0)", b.x.rounds(w[0], w[1], 0), -1);
+  }
+
+  private static void halfAWindow() {
+    b.about("M is mantissa, W is 2 to the M.");
+    for (int m = 4; m <= 8; m++) {
+      b.fresh();
+      machine(m);
+      b.due("M", b.x.has(1), m);
+      b.due("W / 2 steps are the most", b.x.rounds(1, 1 << (m - 1), 0) == 0 && b.x.rounds(1, (1 << (m - 1)) + 1, 0) == 1, true);
+      b.due("W addresses are a window", b.x.window(0, 0), 1 << m);
+    }
   }
 
   private static void theLeastExponent() {
@@ -123,7 +136,8 @@ public final class BoundsEdgesTest {
 
   /** Each B by W 16: the correction is 0, -1 or 1 as the address and B lie below the edge or not. */
   private static void theWindow() {
-    b.about("C is 0, if MID and B are both below EDGE or both not, -1 if just MID is below EDGE, 1 if just B is;");
+    b.about("TO DECODE from an address A: MID is A divided by 2 to the E, modulo W; EDGE is B less W / 4, modulo W; C is 0, if MID and B are both below"
+        + " EDGE or both not, -1 if just MID is below EDGE, 1 if just B is;");
     for (int base = 32; base < 48; base++) {
       b.fresh();
       machine(4);
@@ -386,6 +400,23 @@ public final class BoundsEdgesTest {
     b.due("the one of all, D is 127", b.x.quick(15, 126 * 32 - 1), 1);
     b.due("the one of all, D less 1", b.x.quick(15, 126 * 32), 0);
     b.due("the one of all, back to it", b.x.quick(15, -4095), 1);
+  }
+
+  /** By E 1 a step of -1 is -1 of two, not 0, and one of 1 is none. */
+  private static void dividedDownwards() {
+    b.about("(Divided: the greatest whole number not above.)");
+    machine(4);
+    point(16, 10);
+    b.x.move(0, -8);
+    b.due("E", b.x.pointer(0, 4), 1);
+    b.x.move(0, 2);
+    // D is 15 at 10: -1 and -2 are J 15, -3 is J 14.
+    int[] steps = {-33, -32, -3, -2, -1, 0, 1, 27, 28, 29};
+    int[] quick = {0, 0, 0, 1, 1, 1, 1, 1, 0, 0};
+    for (int i = 0; i < steps.length; i++) b.due("quick(0, " + steps[i] + ")", b.x.quick(0, steps[i]), quick[i]);
+    b.due("from 9 on it is at 8", b.x.move(0, -1) && b.x.pointer(0, 2) == 16, true);
+    b.due("D is 0 there", b.x.quick(0, 0), 0);
+    b.due("two back, at 7, it is none of the window", b.x.fits(0, -2) == 0 && b.x.fits(0, -1) == 1, true);
   }
 
   private static void quickRefused() {

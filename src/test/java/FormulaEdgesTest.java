@@ -5,6 +5,8 @@ public final class FormulaEdgesTest {
   public static void main(String[] args) {
     orAndNot();
     facts();
+    productsOfParts();
+    asLongAsATape();
     fromTheLeft();
     division();
     tenToTheSix();
@@ -91,6 +93,36 @@ public final class FormulaEdgesTest {
     test("0-1<0", true);
     test("0-1>0", false);
     test("1+1=3-1", true);
+  }
+
+  private static void productsOfParts() {
+    b.about("SUM: PRODUCT { + or - PRODUCT }. PRODUCT: PART { * or / PART }.");
+    sum("5", 5);
+    sum("5+6", 11);
+    sum("5-6", -1);
+    sum("5*6", 30);
+    sum("6/5", 1);
+    sum("2+3*4-10/5", 12);
+    sum("2*3-4*5+6", -8);
+    sum("1+1-1+1-1*1/1*1", 1);
+  }
+
+  /** What 1600 bytes can hold: as many parts in a row, and as many that wait for others at once. */
+  private static void asLongAsATape() {
+    b.fresh();
+    b.machine("memory 64 mantissa 8;");
+    b.answers("total 1" + "+1".repeat(796), 16 * 797);
+    b.answers("total 1" + "*1".repeat(796), 16);
+    b.answers("often all" + " or all".repeat(227), 16);
+    b.answers("often all" + " and all".repeat(198), 16);
+    b.answers("often all" + " and all".repeat(197) + " and 1=2", 0);
+    b.answers("often 1=2 or all and 8=" + "1+1*min(9,".repeat(6) + "2" + ")".repeat(6), 16);
+    b.answers("often 1=2 or all and 9=" + "1+1*min(9,".repeat(6) + "2" + ")".repeat(6), 0);
+    b.answers("often " + "[1=2 or all and ".repeat(6) + "1<1+1*7" + "]".repeat(6), 16);
+    b.answers("often " + "[1=2 or all and ".repeat(6) + "1<1-1*7" + "]".repeat(6), 0);
+    b.due("a machine as long", b.machine("memory 64 mantissa 8;pads 1" + "+1".repeat(70) + "-1".repeat(60) + "*1".repeat(655) + ";"), 2);
+    b.x.alloc(0, 1);
+    b.due("its padding", b.x.object(0, 1), 12);
   }
 
   private static void fromTheLeft() {

@@ -25,6 +25,7 @@ public final class TextEdgesTest {
     faultAndPlace();
     faultOfOthers();
     letters();
+    fortyAtMost();
     memoryAndMantissa();
     theFirstStatementAlone();
     kinds();
@@ -222,7 +223,7 @@ public final class TextEdgesTest {
   }
 
   private static void faultAndPlace() {
-    b.about("its FAULT (what 0; 0 without, and ahead of any), its place (1; NONE without)");
+    b.about("Of the latest machine() or ask(): its FAULT (what 0; 0 without, and ahead of any), its place (1; NONE without)");
     b.due("ahead of any", b.x.fault(0), 0);
     b.due("ahead of any", b.x.fault(1), -1);
     b.due("a question without a machine does nothing else", b.ask("x"), Bench.NOTHING);
@@ -267,6 +268,22 @@ public final class TextEdgesTest {
   }
 
   // ---- terms I: what stands
+
+  /** No text has forty: four shelves and one of each other kind are eight. */
+  private static void fortyAtMost() {
+    b.about("A MACHINE is a text: { STATEMENT ; } (40 at most):");
+    String eight = FOUR + "picks 1;pads 1;traps all;";
+    b.stands(eight, 8);
+    for (int at = 0; at < eight.length(); at++) {
+      if (eight.charAt(at) != ';') continue;
+      boolean last = at + 1 == eight.length();
+      String without = eight.substring(0, at) + " " + eight.substring(at + 1);
+      b.fails(without, 1, last ? without.length() : at + 1);
+      b.fails(eight.substring(0, at) + ";" + eight.substring(at), 1, at + 1);
+    }
+    String[] more = {"shelf e kind 1;", "picks 1;", "pads 1;", "traps all;"};
+    for (String statement : more) b.fails(eight + statement.repeat(33), 5, eight.length());
+  }
 
   private static void memoryAndMantissa() {
     b.about("memory N mantissa N (64 .. 1024 bytes; 4 .. 8 bits;");
