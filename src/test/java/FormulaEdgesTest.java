@@ -113,6 +113,11 @@ public final class FormulaEdgesTest {
     b.machine("memory 64 mantissa 8;");
     b.answers("total 1" + "+1".repeat(796), 16 * 797);
     b.answers("total 1" + "*1".repeat(796), 16);
+    b.answers("total 10" + "+1".repeat(796), 16 * 806);
+    b.answers("total " + " ".repeat(1588) + "number", 120);
+    b.answers("often " + " ".repeat(1591) + "all", 16);
+    b.askFails("often " + " ".repeat(1592) + "al", 1, 1598);
+    b.answers("total " + " ".repeat(1590) + "1234", 16 * 1234);
     b.answers("often all" + " or all".repeat(227), 16);
     b.answers("often all" + " and all".repeat(198), 16);
     b.answers("often all" + " and all".repeat(197) + " and 1=2", 0);

@@ -457,6 +457,14 @@ public final class ImageEdgesTest {
       scene();
       readAll("cut to " + n, false, n == 0 ? cut : closed(cut));
     }
+    for (int n : new int[] {bytes.length - 1, bytes.length - 6, 1, 0}) {
+      b.fresh();
+      scene();
+      b.tape(Bench.textOf(bytes));
+      b.x.end(n);
+      b.due("what was behind the tape's end is no part of it, " + n, b.x.on(), false);
+      b.due("status(7)", b.x.status(7), 1);
+    }
     int[] longer = new int[bytes.length + 1];
     System.arraycopy(bytes, 0, longer, 0, bytes.length);
     b.fresh();

@@ -14,6 +14,7 @@ public final class QuestionEdgesTest {
     itsNumbers();
     theBaseOfAnother();
     aStepThatFits();
+    byEachMantissa();
     anUnknownWord();
     whatStandsBehind();
     asInI();
@@ -173,6 +174,26 @@ public final class QuestionEdgesTest {
     b.answers("total fits number", 16 - 4);
   }
 
+  private static void byEachMantissa() {
+    b.about("fits PART; ( SUM ) ;");
+    for (int m = 4; m <= 8; m++) {
+      b.fresh();
+      b.due("machine", b.machine("memory 1024 mantissa " + m + ";traps all;"), 2);
+      int half = 1 << (m - 1);
+      b.x.alloc(0, 2);
+      b.x.alloc(3, half);
+      b.due("its base", b.x.pointer(3, 2), 18);
+      b.answers("least from 3", 18);
+      b.answers("most base", 18);
+      b.answers("most length*(1-number/15)", half);
+      int last = 18 - half / 2 + 2 * half - 1 - 18;
+      b.answers("often number=3 and fits " + last + "=1", 1);
+      b.answers("often number=3 and fits " + (last + 1) + "=0", 1);
+      b.answers("often number=3 and fits(0-" + half / 2 + ")=1", 1);
+      b.answers("often number=3 and fits(0-" + (half / 2 + 1) + ")=0", 1);
+    }
+  }
+
   private static void anUnknownWord() {
     b.about("1 as in I (an unknown word at its first byte;");
     scene();
@@ -235,6 +256,10 @@ public final class QuestionEdgesTest {
     b.askFails("first all or", 1, 12);
     b.askFails("first 1<", 1, 8);
     b.askFails("first 1<=2", 1, 8);
+    b.askFails("first all and", 1, 13);
+    for (String sign : new String[] {"+", "-", "*", "/"}) b.askFails("total 1" + sign, 1, 8);
+    for (String sign : new String[] {"+", "-", "*", "/"}) b.askFails("total 1" + sign + ")", 1, 8);
+    b.askFails("total min(1,)", 1, 12);
     b.askFails("total\t1", 1, 5);
     b.answers("total(1)", 16);
     b.answers("often[all]", 16);

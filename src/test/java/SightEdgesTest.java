@@ -8,6 +8,7 @@ public final class SightEdgesTest {
   public static void main(String[] args) {
     rowsOfSteps();
     placesThatAreSo();
+    windowsOfAllBases();
     theFewest();
     ofLikeOnesTheFirst();
     howManyRows();
@@ -91,6 +92,24 @@ public final class SightEdgesTest {
     placesAre(3, 20);
   }
 
+  private static void windowsOfAllBases() {
+    b.about("are those addresses from which its bounds are as now,");
+    for (int m = 4; m <= 8; m++) {
+      int w = 1 << m;
+      for (int base : new int[] {512, 513, 514, 515, 512 + w / 4 - 1, 512 + w / 4, 512 + w / 2 + 1, 511 + w}) {
+        b.fresh();
+        b.due("machine", b.machine("memory 64 mantissa " + m + ";"), 1);
+        b.x.move(15, base);
+        b.due("narrow", b.x.narrow(15, 0, w / 2), w / 2);
+        b.due("how many from " + base + " on", b.x.places(0, -1), w);
+        b.due("the first", b.x.places(0, 0), base - w / 4);
+        b.due("the last", b.x.places(0, w - 1), base - w / 4 + w - 1);
+        b.due("half of them, or as far as a step goes", b.x.tells(0, 1), Math.max(w / 2, w - 64));
+        b.due("by the first such step", b.x.tells(0, 0), 64 - Math.min(64, w / 2));
+      }
+    }
+  }
+
   private static void theFewest() {
     b.about("TELLING is the step (-64 .. 63) by which, FITTING from there or not, the most PLACES left are fewest;");
     machine();
@@ -169,6 +188,14 @@ public final class SightEdgesTest {
     machine();
     b.see(64 + 15, 1);
     int refused = 1;
+    // What was behind the tape's end is no part of it.
+    for (int n : new int[] {1, 3, 31}) {
+      b.tape(Bench.textOf(1, 1, 1, 1).repeat(8));
+      b.x.end(n);
+      b.due(n + " bytes, more behind them", b.x.see(), -1);
+      b.due("status(1)", b.x.status(1), ++refused);
+      b.due("has(8) stays", b.x.has(8), 1);
+    }
     int[][] wrong = {
       {}, {64}, {64, 1, 64}, {128, 1}, {255, 1}, {64, 2}, {64, 255}, {64, 1, 128, 0}, {64, 1, 64, 2}, new int[33], new int[34], new int[40]
     };

@@ -90,6 +90,11 @@ public final class TextEdgesTest {
     b.due("status(0)", b.x.status(0), 1);
     b.due("the tape is as it was", b.x.machine(), -1);
     b.due("its last byte, x, is a fault", b.x.fault(1), 1599);
+    b.stands(M + " ".repeat(1590 - AT) + "traps all;", 2);
+    b.fails(M + " ".repeat(1591 - AT) + "traps all", 1, 1600);
+    b.fails(M + " ".repeat(1591 - AT) + "shelf max", 1, 1597);
+    b.fails(M + " ".repeat(1591 - AT) + "shelf abc", 1, 1600);
+    b.fails(M + " ".repeat(1591 - AT) + "pads 1234", 1, 1600);
     for (int bytes = 1581; bytes < 1600; bytes++) {
       b.fresh();
       fill(M, bytes);
@@ -195,6 +200,10 @@ public final class TextEdgesTest {
     b.x.move(15, 2);
     b.x.alloc(0, 8);
     b.x.store(15, 9);
+    b.x.alloc(1, 39);
+    b.due("E, B, T, permits of one", b.x.pointer(1, 4) > 0 && b.x.pointer(1, 5) > 0 && b.x.pointer(1, 6) > 0 && b.x.pointer(1, 7) > 0, true);
+    for (int p = 2; p < 15; p++) b.x.copy(1, p);
+    b.x.seal(1, 15);
     b.x.seal(0, 15);
     b.x.shelve(0, 0);
     b.see(64, 1, 60, 1);
@@ -428,6 +437,10 @@ public final class TextEdgesTest {
     b.fails(M + "traps all and1=1;", 1, AT + 13);
     b.fails(M + "traps not1=1;", 1, AT + 9);
     b.fails(M + "traps notall;", 1, AT + 6);
+    // Numbers that are the bytes of signs are none.
+    b.fails(M + "picks need43 1;", 1, AT + 10);
+    b.fails(M + "traps all59", 1, AT + 9);
+    b.fails(M + "picks need59", 1, AT + 10);
     b.stands(M + "picks(need)+min(1,2);traps[1=1]and[2=2]or not(1)=1;", 3);
   }
 
@@ -455,6 +468,8 @@ public final class TextEdgesTest {
     b.fails("memor", 1, 0);
     b.fails("memoryy 64 mantissa 4;", 1, 0);
     b.fails("memory 64 mantisse 4;", 1, 10);
+    b.fails("memory 64 mantissashelf 4;", 1, 10);
+    b.fails("memory 64 mantissa" + "s".repeat(90) + " 4;", 1, 10);
     b.fails("memory 64 mantissa 4 55;", 1, 21);
     b.fails("memory 64 64 mantissa 4;", 1, 10);
     b.fails("64", 1, 0);
@@ -475,6 +490,22 @@ public final class TextEdgesTest {
     b.fails(M + "traps [all);", 1, AT + 10);
     b.fails(M + "traps (all);", 1, AT + 7);
     b.fails(M + "traps not;", 1, AT + 9);
+    for (String sign : new String[] {"+", "-", "*", "/"}) {
+      b.fails(M + "picks 1" + sign + ";", 1, AT + 8);
+      b.fails(M + "picks 1" + sign + "1" + sign + ";", 1, AT + 10);
+      b.fails(M + "picks " + sign + "1;", 1, AT + 6);
+    }
+    for (String sign : new String[] {"<", ">", "="}) {
+      b.fails(M + "traps 1" + sign + ";", 1, AT + 8);
+      b.fails(M + "traps " + sign + "1;", 1, AT + 6);
+    }
+    b.fails(M + "traps all and;", 1, AT + 13);
+    b.fails(M + "traps all or;", 1, AT + 12);
+    b.fails(M + "traps and all;", 1, AT + 6);
+    b.fails(M + "traps [];", 1, AT + 7);
+    b.fails(M + "picks min(,1);", 1, AT + 10);
+    b.fails(M + "picks min(1,);", 1, AT + 12);
+    b.fails(M + "picks max(1,2;", 1, AT + 13);
   }
 
   private static void ownWordsAsNames() {
@@ -575,6 +606,9 @@ public final class TextEdgesTest {
     b.stands(M + "traps (((((1)))))+min((((((1))))),1)=((((((1))))));", 2);
     b.fails(M + "pads ((((((1))))))+((((((min(1,1)))))));", 4, AT + 28);
     b.fails(M + "pads ((((((1+(1)))))));", 4, AT + 13);
+    b.stands(M + "pads min(1,(((((1))))));", 2);
+    b.fails(M + "pads min(1,((((((1)))))));", 4, AT + 16);
+    b.fails(M + "pads max((((((1))))),((((((1)))))));", 4, AT + 26);
     // Where none is asked it is a fault of the first kind.
     b.fails(M + "pads ((((((1(", 1, AT + 12);
     b.fails(M + "pads (((((([", 1, AT + 11);
