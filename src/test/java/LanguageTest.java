@@ -8,20 +8,20 @@ import java.nio.file.Path;
 import java.util.ArrayList;
 import java.util.Arrays;
 import java.util.List;
+import java.util.TreeMap;
 import java.util.TreeSet;
 import java.util.regex.Matcher;
 import java.util.regex.Pattern;
 
 /** What LANGUAGE.md asks and a test can see: the face, forbidden words, sizes, room. */
 public final class LanguageTest {
-  private static final String FACE = "feed:5i end:1b machine:0i fault:1i has:1i letter:2i pointer:2i shelf:3i object:2i"
-      + " hole:2i octetAt:1i kept:2i rounds:3i exact:2i fits:2i quick:2i window:2i reachers:1i room:1i odds:0i"
-      + " share:1i see:0i places:2i tells:2i alloc:2i free:1i copy:2b move:2b narrow:3i limit:2i seal:2i"
-      + " unseal:2b load:1i store:2b shelve:2i take:3b chance:1i undo:0b seed:1b ask:0l image:0i octet:1i on:0b"
-      + " status:1i";
+  private static final Pattern DECLARED = Pattern.compile("public (int|long|boolean) ([a-zA-Z]+)\\(([a-z, ]*)\\);");
   private static final Bench b = new Bench("LanguageTest");
+  /** Each method of the document's face as a text, told by its name. */
+  private static final TreeMap<String, String> FACE = new TreeMap<>();
 
   public static void main(String[] args) throws Exception {
+    readFace();
     face();
     nested();
     words();
@@ -30,23 +30,25 @@ public final class LanguageTest {
     b.ends();
   }
 
+  /** Names of parameters are no part of a face that a caller could see, so their types alone are held. */
+  private static void readFace() {
+    Matcher m = DECLARED.matcher(Bench.document());
+    while (m.find()) {
+      String types = m.group(3).replaceAll("(int) [a-z]+", "$1").replace(" ", "");
+      FACE.put(m.group(2), m.group(1) + " " + m.group(2) + "(" + types + ")");
+    }
+    b.due("methods of the document's face", FACE.size(), 44);
+  }
+
   private static void face() {
     TreeSet<String> got = new TreeSet<>();
-    TreeSet<String> names = new TreeSet<>();
-    for (Method m : FatPointers.class.getDeclaredMethods()) {
-      if (Modifier.isPublic(m.getModifiers())) {
-        String type = m.getReturnType().getName().substring(0, 1);
-        got.add(m.getName() + ":" + m.getParameterCount() + type);
-        names.add(m.getName());
-        for (Class<?> p : m.getParameterTypes()) b.due("ints alone in " + m, p == int.class, true);
-      }
-    }
-    b.due("the face: " + got, got.equals(new TreeSet<>(Arrays.asList(FACE.split(" ")))), true);
     for (Method m : FatPointers.class.getDeclaredMethods()) {
       boolean isPublic = Modifier.isPublic(m.getModifiers());
       b.due("private: " + m, isPublic || Modifier.isPrivate(m.getModifiers()), true);
-      b.due("a name of its own: " + m, isPublic || !names.contains(m.getName()), true);
+      b.due("static: " + m, isPublic && Modifier.isStatic(m.getModifiers()), false);
+      if (isPublic) got.add(m.toString().replaceAll("^public |FatPointers\\.", ""));
     }
+    b.due("the face: " + got, got.equals(new TreeSet<>(FACE.values())), true);
     for (Field f : FatPointers.class.getDeclaredFields()) {
       boolean constant = f.getName().equals("NONE") || f.getName().equals("NOTHING");
       b.due("private: " + f, constant == Modifier.isPublic(f.getModifiers()), true);
@@ -76,7 +78,7 @@ public final class LanguageTest {
       b.due("fields of " + c + ": " + fields, fields <= 20, true);
       for (Method m : c.getDeclaredMethods()) {
         b.due("parameters of " + m, m.getParameterCount() <= 7, true);
-        boolean taken = (" " + FACE).contains(" " + m.getName() + ":");
+        boolean taken = FACE.containsKey(m.getName());
         b.due("a name of its own: " + m, !taken || Modifier.isPublic(m.getModifiers()), true);
       }
       boolean isStatic = Modifier.isStatic(c.getModifiers());
